@@ -483,7 +483,10 @@ public final class PromiseTest {
         for (int[] c : beyond) due("index", x.copy(0, c[0], 1, c[1], c[2]), INDEX);
         due("fault", x.fault(), 3);
         due("none at the ends", x.copy(0, 5, 1, 2, 0), 0);
+        due("fault", x.fault(), 0);
+        due("index", x.copy(0, 6, 1, 0, 0), INDEX);
         due("sheet", x.copy(4, 0, 0, 0, 0), UNKNOWN);
+        due("refused", x.fault(), 0);
         due("sheet", x.copy(0, 0, -1, 0, 0), UNKNOWN);
     }
 
