@@ -199,7 +199,6 @@ public final class DebtLamps {
     public int reading(int t, int b, int a) {
         if (!isPerson(b) || !(isPerson(a) || a == NONE)) return UNKNOWN;
         if (!isWithin(t, MOST_READING_DUSKS)) return OUTSIDE;
-        if (readings.count >= MOST_READINGS) return FULL;
         return readings.add(t, b, a);
     }
 
@@ -439,6 +438,7 @@ public final class DebtLamps {
         private final int[] lighterOf = new int[MOST_READINGS];
         private int count;
 
+        /** The number of the reading that is added; FULL. */
         int add(int t, int b, int a) {
             if (count >= MOST_READINGS) return FULL;
             duskOf[count] = t;
