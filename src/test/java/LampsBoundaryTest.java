@@ -221,6 +221,8 @@ public final class LampsBoundaryTest implements Words {
     private static void thoseWhoComeAgain() {
         Run x = Run.ofTown(LONG_WAY);
         for (int b = 0; b < 6; b++) x.due(48, "ring", b);
+        Run five = Run.ofTown(FIVE);
+        for (int b = 0; b < 5; b++) five.due(6, "ring", b);
         Run all = Run.ofTown("l60,p000001,p100000,p010000,p001000,p000100,p000010");
         for (int b = 0; b < 6; b++) all.due(63, "ring", b);
         Run two = Run.ofTown("l20,p01,p10");
