@@ -26,6 +26,7 @@ public final class FaceTest {
         "throw", "throws", "try", "catch", "finally", "synchronized", "assert", "import", "package", "Override",
         "equals", "hashCode", "toString", "protected", "volatile", "native", "var", "yield", "->", "::",
     };
+    private static final int MOST_PARAMETERS = 7, MOST_CLASSES = 12, MOST_FIELDS = 20, MOST_LINES = 60;
     private static int wrong = 0;
 
     private static void holds(String what, boolean so) {
@@ -68,8 +69,6 @@ public final class FaceTest {
         Set<String> open = new TreeSet<>();
         for (Field f : DebtLamps.class.getDeclaredFields()) {
             if (!Modifier.isPrivate(f.getModifiers())) open.add(f.getName());
-            boolean isStatic = Modifier.isStatic(f.getModifiers());
-            holds(f + " is static, but not final", !isStatic || Modifier.isFinal(f.getModifiers()));
         }
         holds("the constants are those of the document: " + open, open.equals(new TreeSet<>(Set.of(CONSTANTS))));
         Constructor<?>[] made = DebtLamps.class.getDeclaredConstructors();
@@ -87,6 +86,38 @@ public final class FaceTest {
         holds("LOST", DebtLamps.LOST == Long.MIN_VALUE);
     }
 
+    private static void sizes() {
+        Class<?>[] inside = DebtLamps.class.getDeclaredClasses();
+        holds(inside.length + " classes inside", inside.length < MOST_CLASSES);
+        sizesOf(DebtLamps.class);
+        for (Class<?> one : inside) sizesOf(one);
+    }
+
+    private static void sizesOf(Class<?> one) {
+        int fields = 0;
+        for (Field f : one.getDeclaredFields()) {
+            boolean isStatic = Modifier.isStatic(f.getModifiers());
+            holds(f + " is static, but not final", !isStatic || Modifier.isFinal(f.getModifiers()));
+            if (!isStatic) fields++;
+        }
+        holds(one + " has " + fields + " fields", fields <= MOST_FIELDS);
+        for (Method m : one.getDeclaredMethods()) {
+            holds(m + " takes too many parameters", m.getParameterCount() <= MOST_PARAMETERS);
+        }
+    }
+
+    /** A method begins by a line that ends with { behind ) and ends by a } that stands as far in. */
+    private static void methodsAreShort(String source) {
+        String[] lines = source.split("\n");
+        for (int k = 0; k < lines.length; k++) {
+            if (!lines[k].matches(" +[A-Za-z].*\\) \\{")) continue;
+            String end = lines[k].replaceAll("[^ ].*", "") + "}";
+            int last = k;
+            while (last < lines.length - 1 && !lines[last].equals(end)) last++;
+            holds("too long: " + lines[k].trim(), last - k < MOST_LINES);
+        }
+    }
+
     private static String withoutComments(String source) {
         return source.replaceAll("(?s)/\\*.*?\\*/", " ").replaceAll("//[^\n]*", " ");
     }
@@ -97,7 +128,9 @@ public final class FaceTest {
     }
 
     private static void source() throws IOException {
-        String code = withoutComments(Files.readString(Path.of("src/main/java/DebtLamps.java"), StandardCharsets.US_ASCII));
+        String written = Files.readString(Path.of("src/main/java/DebtLamps.java"), StandardCharsets.US_ASCII);
+        methodsAreShort(written);
+        String code = withoutComments(written);
         for (String word : FORBIDDEN) holds("the source says " + word, !hasWord(code, word));
         holds("a list of places in the machine's classes", !hasWord(code, "java"));
     }
@@ -106,6 +139,7 @@ public final class FaceTest {
         methods();
         members();
         constants();
+        sizes();
         source();
         System.out.println(wrong == 0 ? "the face is as told" : wrong + " rules are broken");
         if (wrong != 0) System.exit(1);

@@ -91,6 +91,19 @@ public final class ReadingsBoundaryTest implements Words {
         ten.due(511, "debts", 1, 0);
     }
 
+    private static void fromNowOn() {
+        Run x = Run.ofTown(PAID_OFF);
+        x.due(0, "reading", 2, 1, 0);
+        x.due(1016, "debts", 0, 1);
+        x.due(1023, "bells");
+        x.due(2, "dusks", 1);
+        x.due(1, "many", 3);
+        x.due(1016, "debts", 0, 1);
+        x.due(1, "bells");
+        x.due(2, "owe", 0, 1, 3);
+        x.due(1023, "bells");
+    }
+
     // ---- promise 17
 
     private static void backOutside() {
@@ -290,6 +303,14 @@ public final class ReadingsBoundaryTest implements Words {
         x.due(1, "lighter", 0);
     }
 
+    private static void oddsByWhatIsOwedNow() {
+        Run x = Run.ofTown(THREE);
+        x.due(0, "reading", 0, 0, NONE);
+        x.due(0, "bells");
+        dueOdds(x, 0, 1, 1, 2);
+        dueOdds(x, 0, 2, 1, 4);
+    }
+
     private static void readings() {
         Check.that("promise 16", "UNKNOWN: b", ReadingsBoundaryTest::readingOfNoLamp);
         Check.that("promise 16", "UNKNOWN: a", ReadingsBoundaryTest::readingOfNoPerson);
@@ -300,6 +321,7 @@ public final class ReadingsBoundaryTest implements Words {
         Check.that("promise 16", "FULL behind UNKNOWN, OUTSIDE", ReadingsBoundaryTest::fullComesLast);
         Check.that("terms 4", "numbered by how many there are", ReadingsBoundaryTest::numberedByHowManyThereAre);
         Check.that("terms 4", "behind t DUSKS", ReadingsBoundaryTest::behindNoDuskAndTen);
+        Check.that("terms 4", "from now on", ReadingsBoundaryTest::fromNowOn);
         Check.that("promise 17", "OUTSIDE", ReadingsBoundaryTest::backOutside);
         Check.that("promise 17", "k READINGS (0 .. as many as there are)", ReadingsBoundaryTest::backNoneAndAll);
         Check.that("promise 17", "as many as there are: none without a TOWN", ReadingsBoundaryTest::backWithoutTown);
@@ -322,6 +344,7 @@ public final class ReadingsBoundaryTest implements Words {
         Check.that("terms", "the lower number is above 0", ReadingsBoundaryTest::oddsOfNone);
         Check.that("terms", "in least terms", ReadingsBoundaryTest::oddsInLeastTerms);
         Check.that("terms 4", "paid all, or nothing: the LIGHTER then", ReadingsBoundaryTest::oddsOfSeveralTheLeast);
+        Check.that("terms 4", "ODDS by who OWES there", ReadingsBoundaryTest::oddsByWhatIsOwedNow);
         Check.that("promise 21", "nothing is changed", ReadingsBoundaryTest::oddsChangeNothing);
     }
 
